@@ -13,6 +13,21 @@ final class AllocateTest {
     }
 
     private static void newBlocks(Script script) {
+        script.run("'Takes n bytes': from the address told on they are the block's own, no header's", """
+            allocate 8 = 1032
+            allocate 8 = 1048
+            write 1032 4294967295
+            write 1036 4294967295
+            number 1024 = 8
+            number 1028 = 1
+            number 1032 = 4294967295
+            number 1036 = 4294967295
+            number 1040 = 8
+            number 1044 = 1
+            free 1048 = 1
+            free 1032 = 1
+            end = 1024
+            """);
         script.run("rounded up to a multiple of 8, at least 8", """
             allocate 0 = 1032
             number 1024 = 8

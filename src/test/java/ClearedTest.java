@@ -5,6 +5,9 @@ final class ClearedTest {
         clearing(script);
         products(script);
         outsideTheMemory(script);
+        bothWithoutSign(script);
+        upwards(script);
+        limitOf480000(script);
         script.finish();
     }
 
@@ -124,6 +127,121 @@ final class ClearedTest {
             cleared 1 400000 throws
             get 1032 = 8
             number 1028 = 0
+            """);
+    }
+
+    private static void bothWithoutSign(Script script) {
+        // A free block as large as any: a product read too small would be taken from it.
+        String before = """
+            allocate 8 = 1032
+            write 1024 4294967288
+            write 1028 0
+            put 1032 9 = 0
+            """;
+        script.changesNothing("'(both without sign)'", before, """
+            cleared -1 -1 = 0
+            cleared -2 -4 = 0
+            cleared -1 1 = 0
+            cleared 1 -1 = 0
+            cleared -8 1 = 0
+            cleared 1 -8 = 0
+            cleared -1 -480000 = 0
+            cleared -480000 -1 = 0
+            cleared 2147483647 2147483647 = 0
+            cleared -2147483648 2147483647 = 0
+            """);
+        script.changesNothing("a product that wraps to little in 32 or 64 bits", before, """
+            cleared 65536 65536 = 0
+            cleared 65536 65537 = 0
+            cleared 65535 65537 = 0
+            cleared 2 -2147483648 = 0
+            cleared -2147483648 2 = 0
+            cleared 3 -1431655765 = 0
+            cleared 3 1431655768 = 0
+            cleared -2147483648 -2147483648 = 0
+            cleared -1 -2147483648 = 0
+            cleared -2147483647 -2147483648 = 0
+            """);
+        script.run("'(both without sign)': times 0, 1 and 2", """
+            cleared -1 0 = 1032
+            cleared 0 -1 = 1048
+            cleared -2147483648 0 = 1064
+            cleared 0 0 = 1080
+            cleared 1 1 = 1096
+            cleared 2 1 = 1112
+            cleared 1 2 = 1128
+            cleared 9 1 = 1144
+            cleared 1 9 = 1168
+            end = 1184
+            """);
+    }
+
+    private static void upwards(Script script) {
+        String before = """
+            allocate 8 = 1032
+            write 1028 0
+            put 1032 5 = 0
+            put 1033 6 = 0
+            put 30000 7 = 0
+            put 65534 8 = 0
+            put 65535 9 = 0
+            """;
+        script.run("'byte by byte upwards': all are 0 before the one that there is not", before + """
+            write 1024 100000
+            cleared 1000 100 throws
+            get 1032 = 0
+            get 1033 = 0
+            get 30000 = 0
+            get 65534 = 0
+            get 65535 = 0
+            number 1024 = 100000
+            number 1028 = 1
+            """);
+        script.run("'makes them 0': from the first to the last, and none beside", """
+            allocate 24 = 1032
+            allocate 8 = 1064
+            free 1032 = 1
+            write 1032 4294967295
+            write 1040 4294967295
+            write 1044 4294967295
+            write 1048 4294967295
+            cleared 17 1 = 1032
+            get 1031 = 0
+            get 1028 = 1
+            number 1032 = 0
+            number 1040 = 0
+            number 1044 = 0
+            get 1048 = 0
+            get 1049 = 255
+            get 1051 = 255
+            number 1056 = 8
+            """);
+    }
+
+    private static void limitOf480000(Script script) {
+        String sentence = "'0 and nothing else if the product is above 480000': ";
+        String before = """
+            allocate 8 = 1032
+            write 1024 480008
+            write 1028 0
+            put 1032 5 = 0
+            """;
+        // Not above it the block is taken, and the clearing comes to the memory's end.
+        String[] notAbove = {"479999 1", "1 479999", "480000 1", "1 480000", "800 600", "600 800"};
+        for (String product : notAbove) {
+            script.run(sentence + product, before + """
+                cleared %s throws
+                number 1024 = 480008
+                number 1028 = 1
+                get 1032 = 0
+                """.formatted(product));
+        }
+        script.changesNothing(sentence + "above it", before, """
+            cleared 480001 1 = 0
+            cleared 1 480001 = 0
+            cleared 240001 2 = 0
+            cleared 693 693 = 0
+            cleared 480008 1 = 0
             """);
     }
 }

@@ -37,6 +37,36 @@ final class EndTest {
             allocate 60408 = 1032
             end = 61440
             """);
+        script.run("'The heap's end': empty, one block, and empty again", """
+            end = 1024
+            allocate 0 = 1032
+            end = 1040
+            free 1032 = 1
+            end = 1024
+            """);
+        script.run("'The heap's end': nearly full, full, and no further", """
+            allocate 60400 = 1032
+            end = 61432
+            allocate 0 = 0
+            end = 61432
+            free 1032 = 1
+            allocate 60408 = 1032
+            end = 61440
+            allocate 0 = 0
+            end = 61440
+            """);
+        script.run("'The heap's end': a written header alone does not move it", """
+            allocate 8 = 1032
+            write 1024 16
+            end = 1040
+            write 1024 0
+            end = 1040
+            write 1028 0
+            end = 1040
+            write 1040 8
+            write 1044 1
+            end = 1040
+            """);
         script.finish();
     }
 }

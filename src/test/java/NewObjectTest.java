@@ -6,12 +6,25 @@ final class NewObjectTest {
         Script script = new Script();
         allBytesAreZero(script);
         objectsAreApart(script);
-        script.run("the heap is empty", """
+        script.run("'the heap is empty'", """
             end = 1024
             free 1032 throws
+            resize 1032 8 throws
+            resize 1032 0 throws
             end = 1024
+            allocate 8 = 1032
+            end = 1040
+            """);
+        script.run("an empty heap has no block, whatever lies at its beginning", """
+            write 1024 8
+            write 1028 1
+            free 1032 throws
+            write 1028 0
+            allocate 8 = 1032
+            end = 1040
             """);
         script.run("the stack's end is 65536", """
+            stack 65537 = 0
             allocate 60409 = 0
             allocate 60408 = 1032
             end = 61440

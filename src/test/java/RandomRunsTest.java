@@ -5,8 +5,9 @@ final class RandomRunsTest {
     private static final int RUNS = 20000;
     private static final int CALLS = 250;
     private static final int GETS = 256;
-    private static final int[] STRANGE = {0, 1, 2, 4, 7, 8, 16, 20, 24, 31, 255, 256, 30000, 64496, 70000, 480000,
-        480001, 480008, Integer.MAX_VALUE, Integer.MIN_VALUE, -1, -7, -8, -16, -100, -65536};
+    private static final int[] STRANGE = {0, 1, 2, 4, 7, 8, 16, 20, 24, 31, 255, 256, 1024, 30000, 64496, 65536, 66560,
+        70000, 480000, 480001, 480008, Integer.MAX_VALUE, Integer.MIN_VALUE, -2147482616, -1, -7, -8, -16, -100, -1032,
+        -64504, -65536};
 
     private final Script script;
     private long state;
@@ -58,11 +59,22 @@ final class RandomRunsTest {
         switch (below(12)) {
             case 0: case 1: case 2: compare(where, "allocate", length(), 0); break;
             case 3: compare(where, "cleared", length(), below(3) == 0 ? strange() : below(4)); break;
-            case 4: case 5: compare(where, "resize", address(), length()); break;
+            case 4: case 5: resize(where, address(), length()); break;
             case 6: case 7: case 8: compare(where, "free", address(), 0); break;
-            case 9: compare(where, "stack", below(3) == 0 ? below(70000) : plain.end() + below(8000) - 4, 0); break;
+            case 9: compare(where, "stack", stackEnd(), 0); break;
             case 10: compare(where, "put", address() - 8 + below(16), below(300)); break;
             default: compare(where, "end", 0, 0); break;
+        }
+    }
+
+    /**
+     * The header of a block that begins less than 8 below the heap's end would partly be written over by that of a new
+     * block, and what it is to give back such a block is not told in the document: that is left out.
+     */
+    private void resize(String where, int a, int n) {
+        boolean headerReachesOverTheEnd = a > plain.end() && a < plain.end() + 8;
+        if (!headerReachesOverTheEnd) {
+            compare(where, "resize", a, n);
         }
     }
 
@@ -103,6 +115,12 @@ final class RandomRunsTest {
 
     private int address() {
         return below(20) == 0 ? strange() : block() + 8 + (below(20) == 0 ? below(16) - 8 : 0);
+    }
+
+    private int stackEnd() {
+        int kind = below(6);
+        return kind == 0 ? strange() : kind == 1 ? 65528 + below(16) : kind == 2 ? below(70000)
+                : plain.end() + below(8000) - 4;
     }
 
     private int length() {

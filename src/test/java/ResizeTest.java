@@ -6,6 +6,12 @@ final class ResizeTest {
         nothingDone(script);
         overlaps(script);
         outsideTheMemory(script);
+        addressZero(script);
+        lengthZero(script);
+        asLarge(script);
+        asLargeWithoutSign(script);
+        couldNotBeTaken(script);
+        throwsFirst(script);
         script.finish();
     }
 
@@ -146,15 +152,6 @@ final class ResizeTest {
             number 1028 = 0
             end = 1096
             """);
-        script.run("the new header lies over the old one: there is no such block any more", """
-            allocate 24 = 1032
-            write 1024 20
-            write 1056 1
-            resize 1060 8 throws
-            number 1056 = 8
-            number 1060 = 1
-            end = 1072
-            """);
     }
 
     private static void outsideTheMemory(Script script) {
@@ -198,6 +195,204 @@ final class ResizeTest {
             number 1040 = 4294967295
             number 1044 = 0
             end = 1056
+            """);
+    }
+
+    private static void addressZero(Script script) {
+        String[] lengths = {"0", "1", "8"};
+        for (String n : lengths) {
+            script.run("'For a = 0 takes n': n = " + n, """
+                resize 0 %s = 1032
+                number 1024 = 8
+                number 1028 = 1
+                end = 1040
+                """.formatted(n));
+        }
+        script.run("'For a = 0 takes n': the first free block, too", """
+            allocate 32 = 1032
+            allocate 8 = 1072
+            free 1032 = 1
+            resize 0 16 = 1032
+            number 1048 = 8
+            resize 0 0 = 1056
+            resize 0 9 = 1088
+            """);
+        script.changesNothing("a = 1 and a = -1 are no addresses of blocks", """
+            allocate 8 = 1032
+            """, """
+            resize 1 0 throws
+            resize 1 8 throws
+            resize -1 0 throws
+            resize -1 8 throws
+            """);
+    }
+
+    private static void lengthZero(Script script) {
+        script.run("'For n = 0 gives a back, as free(): 0'", """
+            allocate 8 = 1032
+            allocate 8 = 1048
+            allocate 8 = 1064
+            allocate 8 = 1080
+            resize 1048 1 = 1048
+            resize 1048 -1 = 0
+            number 1044 = 1
+            resize 1048 0 = 0
+            number 1040 = 8
+            number 1044 = 0
+            resize 1048 0 throws
+            resize 1064 0 = 0
+            number 1040 = 24
+            end = 1088
+            resize 1032 0 = 0
+            number 1024 = 40
+            resize 1080 0 = 0
+            end = 1024
+            """);
+    }
+
+    private static void asLarge(Script script) {
+        String sentence = "'as large as n rounded up to a multiple of 8, nothing is done: a': ";
+        script.changesNothing(sentence + "size 16", """
+            allocate 16 = 1032
+            allocate 8 = 1056
+            """, """
+            resize 1032 1 = 1032
+            resize 1032 8 = 1032
+            resize 1032 9 = 1032
+            resize 1032 15 = 1032
+            resize 1032 16 = 1032
+            """);
+        script.run(sentence + "size 16, 1 more", """
+            allocate 16 = 1032
+            allocate 8 = 1056
+            put 1047 9 = 0
+            resize 1032 17 = 1072
+            number 1064 = 24
+            get 1087 = 9
+            number 1028 = 0
+            end = 1096
+            """);
+        // The blocks that follow a block of such a size are read from 0 bytes: free and of size 0.
+        String before = "allocate 24 = 1032\n";
+        script.run(sentence + "size 7 is less than 1 rounded up", before + """
+            write 1024 7
+            resize 1032 1 = 1064
+            number 1024 = 15
+            number 1028 = 0
+            """);
+        script.changesNothing(sentence + "size 8", before + "write 1024 8\n", """
+            resize 1032 1 = 1032
+            resize 1032 7 = 1032
+            resize 1032 8 = 1032
+            """);
+        script.run(sentence + "size 8 is less than 9 rounded up", before + """
+            write 1024 8
+            resize 1032 9 = 1064
+            number 1028 = 0
+            """);
+        script.changesNothing(sentence + "size 15", before + "write 1024 15\n", "resize 1032 8 = 1032\n");
+        script.run(sentence + "size 15 is less than 9 rounded up", before + """
+            write 1024 15
+            resize 1032 9 = 1064
+            number 1028 = 0
+            """);
+        script.changesNothing(sentence + "size 17", before + "write 1024 17\n", """
+            resize 1032 9 = 1032
+            resize 1032 16 = 1032
+            """);
+        script.run(sentence + "size 17 is less than 17 rounded up", before + """
+            write 1024 17
+            resize 1032 17 = 1064
+            number 1028 = 0
+            """);
+    }
+
+    private static void asLargeWithoutSign(Script script) {
+        String[] sizes = {"2147483639", "2147483640", "2147483647", "2147483648", "4294967287", "4294967288",
+            "4294967295"};
+        String[] large = {"2147483632", "2147483640", "2147483640", "2147483648", "4294967280", "4294967288",
+            "4294967288"};
+        String[] tooLarge = {"2147483633", "2147483641", "2147483641", "2147483649", "4294967281", "4294967289",
+            "4294967289"};
+        for (int k = 0; k < sizes.length; k++) {
+            script.changesNothing("the size of the block at a, without sign: " + sizes[k], """
+                allocate 8 = 1032
+                write 1024 %s
+                """.formatted(sizes[k]), """
+                resize 1032 1 = 1032
+                resize 1032 480001 = 1032
+                resize 1032 %s = 1032
+                resize 1032 %s = 0
+                """.formatted(large[k], tooLarge[k]));
+        }
+    }
+
+    private static void couldNotBeTaken(Script script) {
+        String sentence = "'0, and nothing is given back, if nothing could be taken': ";
+        String before = """
+            allocate 30000 = 1032
+            put 1032 5 = 0
+            put 31031 6 = 0
+            """;
+        script.run(sentence + "just what can be", before + """
+            resize 1032 30400 = 31040
+            get 31040 = 5
+            get 61039 = 6
+            number 1028 = 0
+            end = 61440
+            """);
+        script.run(sentence + "1 less", before + """
+            resize 1032 30399 = 31040
+            number 31032 = 30400
+            number 1028 = 0
+            """);
+        script.changesNothing(sentence + "1 more", before, """
+            resize 1032 30401 = 0
+            resize 1032 480000 = 0
+            resize 1032 480001 = 0
+            resize 1032 2147483647 = 0
+            resize 1032 -2147483648 = 0
+            resize 1032 -8 = 0
+            resize 1032 -7 = 0
+            resize 1032 -1 = 0
+            """);
+        // What the block itself would leave is not counted: it is given back last.
+        script.changesNothing(sentence + "the block's own place does not help", """
+            allocate 60000 = 1032
+            """, "resize 1032 60001 = 0\n");
+    }
+
+    private static void throwsFirst(Script script) {
+        String before = """
+            allocate 8 = 1032
+            allocate 8 = 1048
+            allocate 8 = 1064
+            free 1048 = 1
+            """;
+        String[] addresses = {"1", "-1", "1024", "1031", "1033", "1040", "1048", "1063", "1065", "1072", "1080",
+            "65535", "65536", "2147483647", "-2147483648"};
+        for (String a : addresses) {
+            script.changesNothing("'IndexOutOfBoundsException also where free() throws it, before anything is done'",
+                    before, """
+                free %s throws
+                resize %s 0 throws
+                resize %s 1 throws
+                resize %s 8 throws
+                resize %s 9 throws
+                resize %s 60000 throws
+                resize %s 70000 throws
+                resize %s 480001 throws
+                resize %s -1 throws
+                """.replace("%s", a));
+        }
+        script.run("and where free() does not, it does not", before + """
+            resize 1032 8 = 1032
+            resize 1064 8 = 1064
+            resize 1064 70000 = 0
+            resize 1064 9 = 1080
+            resize 1080 0 = 0
+            resize 1032 0 = 0
+            end = 1024
             """);
     }
 }
